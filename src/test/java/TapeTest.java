@@ -43,7 +43,7 @@ public final class TapeTest {
         Check.due("feed with room for just twenty", notes.feed(0, 0, 0, 0, 0), 940);
         Check.due("end(0)", notes.end(0), true);
         Check.due("end(1) of an empty tape", notes.end(1), false);
-        Check.due("an image of an empty tape", notes.count(4), 0);
+        Check.due("bytes of an empty tape", notes.count(4), 0);
         // 'from 3;' with the highest byte of each number first
         Check.due("feed", notes.feed(0x66726f6d, 0x20333b00, 0, 0, 0), 20);
         Check.due("end(7)", notes.end(7), true);
