@@ -8,6 +8,7 @@ public final class LikeTest {
 
     public static void main(String[] args) {
         byHand();
+        nineNotes();
         wrongInputs();
         for (int seed = 0; seed < RUNS; seed++) {
             Slow slow = new Slow(seed);
@@ -56,6 +57,27 @@ public final class LikeTest {
         Check.due("of like ones the least", alone.commonest(), 1);
         Check.due("cover of no tunes", new NameNotes().cover(), 0);
         Check.due("commonest of no tunes", new NameNotes().commonest(), -1);
+    }
+
+    /** Two tunes of nine notes, the ninth ones unlike in length alone. */
+    private static void nineNotes() {
+        String eight = " 3 3".repeat(8);
+        NameNotes notes = Check.told("tune x" + eight + " 3 3;tune y" + eight + " 3 4;clue c x y;person a;person b;"
+                + "knows a x 9;knows a y 9;knows b x 9;dare b 9;");
+        Check.due("alike", notes.alike(0, 1, 0), 8);
+        Check.due("alike in pitch", notes.alike(0, 1, 1), 9);
+        Check.due("enough", notes.enough(0, 0, -1), 9);
+        Check.due("enough in pitch", notes.enough(0, 1, -1), -1);
+        Check.due("pairs by eight", notes.twins(8, 0, 0, -1), 1);
+        Check.due("pairs by nine", notes.twins(9, 0, 0, -1), 0);
+        Check.due("parts by eight", notes.parts(8, 0, 0), 1);
+        Check.due("parts by nine", notes.parts(9, 0, 0), 2);
+        Check.due("needs", notes.needs(0, 9, 0), 9);
+        Check.due("needs half", notes.needs(0, 4, 0), 1);
+        Check.due("needs what can't be", notes.needs(1, 9, 0), -1);
+        Check.due("best at first", notes.best(0, 1, 0, 0), 9);
+        Ratio.ONE.due("odds by nine", notes.odds(0, 9, 0, 0), notes.odds(0, 9, 0, 1));
+        Check.due("when the ninth comes", notes.when(0, 8), 24);
     }
 
     private static void wrongInputs() {

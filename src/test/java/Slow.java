@@ -61,14 +61,14 @@ final class Slow {
     }
 
     private void drawTune(int x) {
-        int size = 1 + draw(4);
+        int size = 1 + (draw(4) == 0 ? draw(9) : draw(4));
         tunes[x] = new int[size][];
         for (int i = 0; i < size; i++) {
             tunes[x][i] = new int[] {draw(3), 1 + draw(2)};
         }
         if (x > 0 && draw(2) == 0) {
             int[][] other = tunes[draw(x)];
-            int kept = 1 + draw(other.length);
+            int kept = 1 + (draw(2) == 0 ? other.length - 1 : draw(other.length));
             for (int i = 0; i < size && i < kept; i++) {
                 tunes[x][i] = other[i].clone();
             }
@@ -93,14 +93,14 @@ final class Slow {
     private void drawPerson(int p, StringBuilder text) {
         text.append("person ").append(personName(p)).append(';');
         for (int x = 0; x < tunes.length; x++) {
-            if (draw(3) > 0 && text.length() < 840) {
+            if (draw(3) > 0 && text.length() < 820) {
                 knows[p][x] = draw(4) == 0 ? 9 : draw(10);
                 text.append("knows ").append(personName(p)).append(' ').append(tuneName(x)).append(' ')
                         .append(knows[p][x]).append(';');
             }
         }
         dares[p] = 5;
-        if (draw(2) == 0 && text.length() < 840) {
+        if (draw(2) == 0 && text.length() < 820) {
             dares[p] = draw(10);
             text.append("dare ").append(personName(p)).append(' ').append(dares[p]).append(';');
         }
