@@ -1,6 +1,6 @@
 /** Promises 18 to 22 and 25 to 28: two who bid down, each with what is best, or against a rule. */
 public final class DuelTest {
-    private static final int RUNS = 60;
+    private static final int RUNS = 150;
 
     public static void main(String[] args) {
         byHand();

@@ -92,9 +92,10 @@ final class Slow {
     // A studio has 900 bytes at most, so not all are told.
     private void drawPerson(int p, StringBuilder text) {
         text.append("person ").append(personName(p)).append(';');
+        boolean able = draw(3) == 0;
         for (int x = 0; x < tunes.length; x++) {
-            if (draw(3) > 0 && text.length() < 820) {
-                knows[p][x] = draw(4) == 0 ? 9 : draw(10);
+            if ((able || draw(3) > 0) && text.length() < 820) {
+                knows[p][x] = draw(able ? 8 : 4) != 0 == able ? 9 : draw(10);
                 text.append("knows ").append(personName(p)).append(' ').append(tuneName(x)).append(' ')
                         .append(knows[p][x]).append(';');
             }
