@@ -1,4 +1,5 @@
 import java.util.NoSuchElementException;
+import java.util.function.IntToLongFunction;
 
 /** What the tests share: texts that become feeds, answers that are compared, and how many were not due. */
 final class Check {
@@ -11,14 +12,28 @@ final class Check {
     static final long NO_SUCH = Long.MIN_VALUE;
 
     private static int wrong = 0;
+    private static String heading = "";
 
     private Check() {
     }
 
+    /** What is told once ahead of the wrong answers from now on. */
+    static void heading(String words) {
+        heading = words;
+    }
+
+    private static void wrong(String words) {
+        wrong++;
+        if (!heading.isEmpty()) {
+            System.out.println("== " + heading);
+            heading = "";
+        }
+        System.out.println(words);
+    }
+
     static void due(String what, long got, long want) {
         if (got != want) {
-            wrong++;
-            System.out.println(what + " answered " + got + ", due is " + want);
+            wrong(what + " answered " + got + ", due is " + want);
         }
     }
 
@@ -28,8 +43,7 @@ final class Check {
 
     static void due(String what, String got, String want) {
         if (!got.equals(want)) {
-            wrong++;
-            System.out.println(what + " answered " + got + ", due is " + want);
+            wrong(what + " answered " + got + ", due is " + want);
         }
     }
 
@@ -43,6 +57,27 @@ final class Check {
 
     static void throwsNoSuch(String what, Call call) {
         due(what, tried(call), NO_SUCH);
+    }
+
+    /** A fraction is told by 0 above, 1 below, and nothing else. */
+    static void fraction(String what, long above, long below, IntToLongFunction told) {
+        due(what + " above", tried(() -> told.applyAsLong(0)), above);
+        due(what + " below", tried(() -> told.applyAsLong(1)), below);
+    }
+
+    static void noFraction(String what, IntToLongFunction told) {
+        throwsNoSuch(what + " above", () -> told.applyAsLong(0));
+        throwsNoSuch(what + " below", () -> told.applyAsLong(1));
+    }
+
+    /** Numbers that no one of so many has. */
+    static int[] outside(int count) {
+        return new int[] {-1, count, count + 1, Integer.MAX_VALUE, Integer.MIN_VALUE};
+    }
+
+    /** The same where NONE stands for all. */
+    static int[] outsideAll(int count) {
+        return new int[] {-2, count, count + 1, Integer.MAX_VALUE, Integer.MIN_VALUE};
     }
 
     /** Feeds a text and cuts the tape behind it; the tape was empty. */
@@ -71,10 +106,21 @@ final class Check {
         NameNotes notes = new NameNotes();
         int lines = studio(notes, text);
         if (lines < 0) {
-            wrong++;
-            System.out.println("a test's studio has fault " + notes.fault() + " at " + (-1 - lines) + ": " + text);
+            wrong("a test's studio has fault " + notes.fault() + " at " + (-1 - lines) + ": " + text);
         }
         return notes;
+    }
+
+    static void fine(String text, int lines) {
+        NameNotes notes = new NameNotes();
+        due("studio of '" + text + "'", studio(notes, text), lines);
+        due("fault of '" + text + "'", notes.fault(), 0);
+    }
+
+    static void faulty(String text, int kind, int place) {
+        NameNotes notes = new NameNotes();
+        due("studio of '" + text + "'", studio(notes, text), -1 - place);
+        due("fault of '" + text + "'", notes.fault(), kind);
     }
 
     static int evening(NameNotes notes, String text) {

@@ -43,6 +43,43 @@ final class Slow {
         notes = Check.told(text.toString());
     }
 
+    /** A studio as it is told. */
+    Slow(int[][][] tunes, int[][] clues, int[][] knows, int[] dares, int from) {
+        this.tunes = tunes;
+        this.knows = knows;
+        this.dares = dares;
+        this.from = from;
+        StringBuilder text = new StringBuilder();
+        for (int x = 0; x < tunes.length; x++) {
+            text.append("tune ").append(tuneName(x));
+            for (int[] note : tunes[x]) {
+                text.append(' ').append(note[0]).append(' ').append(note[1]);
+            }
+            text.append(';');
+        }
+        for (int c = 0; c < clues.length; c++) {
+            List<Integer> clue = new ArrayList<>();
+            text.append("clue ").append(clueName(c));
+            for (int x : clues[c]) {
+                clue.add(x);
+                text.append(' ').append(tuneName(x));
+            }
+            this.clues.add(clue);
+            text.append(';');
+        }
+        for (int p = 0; p < knows.length; p++) {
+            text.append("person ").append(personName(p)).append(";dare ").append(personName(p)).append(' ')
+                    .append(dares[p]).append(';');
+            for (int x = 0; x < tunes.length; x++) {
+                if (knows[p][x] > 0) {
+                    text.append("knows ").append(personName(p)).append(' ').append(tuneName(x)).append(' ')
+                            .append(knows[p][x]).append(';');
+                }
+            }
+        }
+        notes = Check.told(text.append("from ").append(from).append(';').toString());
+    }
+
     static String tuneName(int x) {
         return "t" + (char) ('a' + x);
     }

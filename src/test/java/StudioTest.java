@@ -84,70 +84,64 @@ public final class StudioTest {
         Check.due("dare without", notes.dare(0), 5);
     }
 
-    private static void faulty(String text, int kind, int place) {
-        NameNotes notes = new NameNotes();
-        Check.due("studio of '" + text + "'", Check.studio(notes, text), -1 - place);
-        Check.due("fault of '" + text + "'", notes.fault(), kind);
-    }
-
     private static void faultsOfTokens() {
-        faulty("tune x 5 2", 1, 10);
-        faulty("tune x 5 2 ", 1, 11);
-        faulty("tune x 5;", 1, 8);
-        faulty("tune x;", 1, 6);
-        faulty("tune x 5 2 7;", 1, 12);
-        faulty("tune 5 2;", 1, 5);
-        faulty("tune tune 5 2;", 1, 5);
-        faulty("tune beats 5 2;", 1, 5);
-        faulty("tune name 5 2;", 1, 5);
-        faulty("tune abcdefgh 5 2;", 1, 5);
-        faulty("tune ab1 5 2;", 1, 5);
-        faulty("tune x 5a 2;", 1, 7);
-        faulty("tune x 100 2;", 1, 7);
-        faulty("tune X 5 2;", 1, 5);
-        faulty("tune x 5 2;;", 1, 11);
-        faulty("tune x 5 2 .", 1, 11);
-        faulty("tune x 5 2(", 1, 10);
-        faulty("tune x 5 2;" + (char) 244, 1, 11);
-        faulty("name x;", 1, 0);
-        faulty("x;", 1, 0);
-        faulty("tune x 5 2;clue c;", 1, 17);
-        faulty("tune x 5 2;clue c x 3;", 1, 20);
-        faulty("tune x 5 2;clue c tune;", 1, 18);
-        faulty("person a b;", 1, 9);
-        faulty("person a;dare a;", 1, 15);
-        faulty("from;", 1, 4);
-        faulty("from x;", 1, 5);
-        faulty("person a;dare a 3 4;", 1, 18);
+        Check.faulty("tune x 5 2", 1, 10);
+        Check.faulty("tune x 5 2 ", 1, 11);
+        Check.faulty("tune x 5;", 1, 8);
+        Check.faulty("tune x;", 1, 6);
+        Check.faulty("tune x 5 2 7;", 1, 12);
+        Check.faulty("tune 5 2;", 1, 5);
+        Check.faulty("tune tune 5 2;", 1, 5);
+        Check.faulty("tune beats 5 2;", 1, 5);
+        Check.faulty("tune name 5 2;", 1, 5);
+        Check.faulty("tune abcdefgh 5 2;", 1, 5);
+        Check.faulty("tune ab1 5 2;", 1, 5);
+        Check.faulty("tune x 5a 2;", 1, 7);
+        Check.faulty("tune x 100 2;", 1, 7);
+        Check.faulty("tune X 5 2;", 1, 5);
+        Check.faulty("tune x 5 2;;", 1, 11);
+        Check.faulty("tune x 5 2 .", 1, 11);
+        Check.faulty("tune x 5 2(", 1, 10);
+        Check.faulty("tune x 5 2;" + (char) 244, 1, 11);
+        Check.faulty("name x;", 1, 0);
+        Check.faulty("x;", 1, 0);
+        Check.faulty("tune x 5 2;clue c;", 1, 17);
+        Check.faulty("tune x 5 2;clue c x 3;", 1, 20);
+        Check.faulty("tune x 5 2;clue c tune;", 1, 18);
+        Check.faulty("person a b;", 1, 9);
+        Check.faulty("person a;dare a;", 1, 15);
+        Check.faulty("from;", 1, 4);
+        Check.faulty("from x;", 1, 5);
+        Check.faulty("person a;dare a 3 4;", 1, 18);
         Check.due("seven letters", Check.studio(new NameNotes(), "person abcdefg;person tunes;"), 2);
     }
 
     private static void faultsOfNumbers() {
-        faulty("tune x 25 2;", 2, 7);
-        faulty("tune x 24 0;", 2, 10);
-        faulty("tune x 24 10;", 2, 10);
-        faulty("from 0;", 2, 5);
-        faulty("from 10;", 2, 5);
-        faulty("tune x 0 1;person a;knows a x 10;", 2, 30);
-        faulty("person a;dare a 10;", 2, 16);
+        Check.faulty("tune x 25 2;", 2, 7);
+        Check.faulty("tune x 24 0;", 2, 10);
+        Check.faulty("tune x 24 10;", 2, 10);
+        Check.faulty("from 0;", 2, 5);
+        Check.faulty("from 10;", 2, 5);
+        Check.faulty("tune x 0 1;person a;knows a x 10;", 2, 30);
+        Check.faulty("person a;dare a 10;", 2, 16);
     }
 
     private static void faultsOfNames() {
-        faulty("tune x 1 1;tune x 1 1;", 3, 16);
-        faulty("tune x 1 1;person x;", 3, 18);
-        faulty("tune x 1 1;clue x x;", 3, 16);
-        faulty("person x;tune x 1 1;", 3, 14);
-        faulty("clue c x;tune x 1 1;", 3, 7);
-        faulty("tune x 1 1;clue c x x;", 3, 20);
-        faulty("tune x 1 1;clue c c;", 3, 18);
-        faulty("tune x 1 1;person a;knows x x 1;", 3, 26);
-        faulty("tune x 1 1;person a;knows a a 1;", 3, 28);
-        faulty("tune x 1 1;person a;knows a x 0;knows a x 0;", 3, 38);
-        faulty("tune x 1 1;person a;knows a x 0;knows a x 10;", 3, 38);
-        faulty("tune x 1 1;person a;knows a x 0;knows a y 0;", 3, 40);
-        faulty("person a;dare b 5;", 3, 14);
-        faulty("person a;dare a 5;dare a 5;", 3, 23);
-        faulty("from 9;from 9;", 3, 7);
+        Check.faulty("tune x 1 1;tune x 1 1;", 3, 16);
+        Check.faulty("tune x 1 1;person x;", 3, 18);
+        Check.faulty("tune x 1 1;clue x x;", 3, 16);
+        Check.faulty("person x;tune x 1 1;", 3, 14);
+        Check.faulty("clue c x;tune x 1 1;", 3, 7);
+        Check.faulty("tune x 1 1;clue c x x;", 3, 20);
+        Check.faulty("tune x 1 1;clue c c;", 3, 18);
+        Check.faulty("tune x 1 1;person a;knows x x 1;", 3, 26);
+        Check.faulty("tune x 1 1;person a;knows a a 1;", 3, 28);
+        Check.faulty("tune x 1 1;person a;knows a x 0;knows a x 0;", 3, 38);
+        Check.faulty("tune x 1 1;person a;knows a x 0;knows a x 10;", 3, 38);
+        Check.faulty("tune x 1 1;person a;knows a x 0;knows a y 0;", 3, 40);
+        Check.faulty("person a;dare b 5;", 3, 14);
+        Check.faulty("person a;dare a 5;dare a 5;", 3, 23);
+        Check.faulty("from 9;from 9;", 3, 7);
     }
 
     private static void faultsOfCounts() {
@@ -156,32 +150,32 @@ public final class StudioTest {
             text.append("tune ").append(Slow.tuneName(x)).append(" 1 1;");
         }
         Check.due("nine tunes", Check.studio(new NameNotes(), text.toString()), 9);
-        faulty(text + "tune", 4, text.length());
-        faulty(text + "clue c ta tb tc td te tf tg th ti ta;", 3, text.length() + 34);
+        Check.faulty(text + "tune", 4, text.length());
+        Check.faulty(text + "clue c ta tb tc td te tf tg th ti ta;", 3, text.length() + 34);
         String nine = "tune x 1 1 1 1 1 1 1 1 1 1 1 1 1 1 1 1 1 1";
         Check.due("nine notes", Check.studio(new NameNotes(), nine + ";"), 1);
-        faulty(nine + " 24 0;", 4, nine.length() + 1);
-        faulty(nine + " 25 1;", 2, nine.length() + 1);
-        faulty(nine + " x;", 1, nine.length() + 1);
+        Check.faulty(nine + " 24 0;", 4, nine.length() + 1);
+        Check.faulty(nine + " 25 1;", 2, nine.length() + 1);
+        Check.faulty(nine + " x;", 1, nine.length() + 1);
         String clues = "tune x 1 1;clue a x;clue b x;clue c x;clue d x;clue e x;clue f x;";
         Check.due("six clues", Check.studio(new NameNotes(), clues), 7);
-        faulty(clues + " clue g x;", 4, clues.length() + 1);
+        Check.faulty(clues + " clue g x;", 4, clues.length() + 1);
         String persons = "person a;person b;person c;person d;person e;";
         Check.due("five persons", Check.studio(new NameNotes(), persons), 5);
-        faulty(persons + "person a;", 4, persons.length());
+        Check.faulty(persons + "person a;", 4, persons.length());
     }
 
     private static void faultsByLength() {
         String line = "person a;";
         String blanks = " ".repeat(900 - line.length());
         Check.due("900 bytes", Check.studio(new NameNotes(), line + blanks), 1);
-        faulty(line + blanks + " ", 1, 900);
-        faulty(line + blanks + "x", 1, 900);
+        Check.faulty(line + blanks + " ", 1, 900);
+        Check.faulty(line + blanks + "x", 1, 900);
         String nearly = " ".repeat(898 - line.length());
-        faulty(line + nearly + "dare a 5;", 1, 900);
-        faulty(line + nearly + "none", 1, 898);
-        faulty(line + " ".repeat(893 - line.length()) + "person a;", 1, 900);
-        faulty(line + " ".repeat(892 - line.length()) + "person a;", 3, 899);
-        faulty(line + " ".repeat(892 - line.length()) + "person bcd;", 1, 900);
+        Check.faulty(line + nearly + "dare a 5;", 1, 900);
+        Check.faulty(line + nearly + "none", 1, 898);
+        Check.faulty(line + " ".repeat(893 - line.length()) + "person a;", 1, 900);
+        Check.faulty(line + " ".repeat(892 - line.length()) + "person a;", 3, 899);
+        Check.faulty(line + " ".repeat(892 - line.length()) + "person bcd;", 1, 900);
     }
 }
