@@ -113,6 +113,13 @@ final class ChangeBounds {
                 Check.due("of eight and one more", full.undo(), left);
             }
             Check.due("no ninth", full.undo(), -1);
+            for (int k = 1; k <= 9; k++) {
+                full.teach(3, 0, k);
+            }
+            for (int left = 7; left >= 0; left--) {
+                Check.due("of nine", full.undo(), left);
+                Check.due("knows", full.knows(3, 0), left + 1);
+            }
             Check.due("what the first one did", full.dare(4), 1);
             Check.due("taught", full.knows(4, 0), 0);
         });
@@ -196,6 +203,9 @@ final class ChangeBounds {
             Check.fraction("never", 0, 1, w -> notes.bolder(2, 0, 0, 0, w));
             Check.fraction("bold at 1 and 2", 2, 9, w -> notes.bolder(1, 2, 4, 2, w));
             Check.fraction("not bold at 1 and 2", 16, 81, w -> notes.bolder(1, 2, 4, 1, w));
+            // 5/9 * 65/81 + 4/9 * 25/81: a lost one counts two points, too
+            Check.fraction("bold alone wins", 425, 729, w -> notes.bolder(0, 0, 0, 5, w));
+            Check.due("bold alone wins", notes.bold(0, 0, 0, 5), 1);
             Check.fraction("as in a match", 17, 81, w -> notes.bolder(0, 0, 3, 0, w));
         });
         Bound.promise(37, "NoSuchElementException: no such ones.", () -> {
@@ -224,6 +234,9 @@ final class ChangeBounds {
             }
             Check.due("of the clue alone", full.lessons(1, 9, 4, 4), 128);
             Check.due("of the clue alone", full.lessons(1, 9, 4, 5), 384);
+            NameNotes last = Check.told("tune x 1 1;tune y 2 1;tune z 3 1;clue c x y z;person a;knows a x 3;knows a y 3;");
+            Check.due("the last one alone is enough, as the two others are", last.lessons(0, 1, 0, 5), 4);
+            Check.due("two are needed", last.lessons(0, 1, 0, 6), 3);
             Check.due("5 of 9 are known", full.lessons(2, 1, 2, 5), 0);
             Check.due("6 of 9 are not", full.lessons(2, 1, 2, 6), 256);
             Check.due("knows as before", full.knows(1, 0), 0);

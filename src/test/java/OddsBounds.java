@@ -244,6 +244,8 @@ final class OddsBounds {
             Check.due("behind 5", notes.best(0, 1, 5, 0), 0);
             Check.due("behind 1", notes.best(0, 1, 1, 0), 0);
             Check.due("the last persons and clue", notes.best(4, 3, 0, 5), 9);
+            Check.due("p's own doing", Check.told(SMALL).best(0, 1, 4, 0), 0);
+            Check.due("p's own doing", Check.told(SMALL).best(1, 0, 4, 0), 3);
         });
         Bound.promise(18, "NONE: no such ones, p alone.", () -> {
             NameNotes full = Check.told(FULL);
@@ -282,6 +284,7 @@ final class OddsBounds {
             Check.fraction("she bids down to 4 of 9", 5, 9, w -> even.gains(0, 1, 0, 0, w));
             even.dares(1, 5);
             Check.due("she says NAME IT below 5", even.reply(0, 1, 6, 0), 5);
+            Check.due("behind 6 she would bid just 5", even.reply(0, 1, 7, 0), 5);
             Check.due("5 and 4 are like, but for the bid", even.reply(0, 1, 5, 0), 0);
             Check.due("she bids down to 6 of 9", even.reply(0, 1, 0, 0), 9);
             even.dares(1, 9);
@@ -326,8 +329,17 @@ final class OddsBounds {
                 }
             }
             String half = "tune x 5 2;tune y 6 2;clue c x y;person a;person b;knows a x 9;from 1;";
-            Check.due("even, if a speaks first", Check.told(half).fair(0, 1, 0), 0);
+            Check.due("even, if a speaks first, else a's", Check.told(half).fair(0, 1, 0), 0);
+            Check.due("even, if b speaks last, else b's", Check.told(half).fair(1, 0, 0), 0);
             Check.due("even, whoever does", Check.told(half + "knows b y 9;").fair(0, 1, 0), 0);
+            NameNotes all = Check.told(half + "knows a y 9;knows b x 9;");
+            Check.due("a's, if a speaks first, else even", all.fair(0, 1, 0), 0);
+            Check.due("b's, if b speaks last, else even", all.fair(1, 0, 0), 0);
+            NameNotes none = Check.told(half + "knows b x 9;knows b y 9;");
+            Check.due("even, if a speaks first, else b's", none.fair(0, 1, 0), 0);
+            none.teach(0, 0, 0);
+            none.teach(1, 1, 0);
+            Check.due("b's, if a speaks first, else even", none.fair(0, 1, 0), 0);
             NameNotes full = Check.told(FULL);
             Check.due("surely p's", full.fair(0, 1, 0), 1);
             Check.due("surely q's", full.fair(1, 0, 0), -1);
@@ -463,6 +475,9 @@ final class OddsBounds {
             NameNotes twins = Check.told("tune x 5 2 7 1 8 1;tune y 5 2 7 1 9 1;tune z 6 2;tune u 6 2;clue c x y z u;clue d y x z;");
             Check.due("none are enough", twins.hardest(0, 0), 2);
             Check.due("none are enough in length", twins.hardest(2, 0), 0);
+            String eight = " 3 3".repeat(8);
+            NameNotes nine = Check.told("tune x" + eight + " 3 3;tune y" + eight + " 3 4;tune z 1 1;tune u 1 1;clue c u z y x;");
+            Check.due("none are enough, ahead of nine", nine.hardest(0, 0), 2);
             Check.due("most notes", twins.hardest(0, 1), 0);
         });
         Bound.promise(30, "NONE: no such ones.", () -> {

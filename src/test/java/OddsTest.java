@@ -97,14 +97,19 @@ public final class OddsTest {
         Check.due("ablest by nought notes", notes.ablest(0, 0), -1);
     }
 
-    /** Nine tunes all alike, each known by the same few ninths: the longest fractions there are. */
-    private static void dearest() {
+    /** Nine tunes all alike, each known by few ninths: the longest fractions there are. */
+    static void dearest() {
+        dearest(1, 2, 4, 5, 7, 8, 1, 2, 5);
+        NameNotes notes = dearest(1, 1, 5, 1, 7, 1, 8, 5, 1);
+        Check.fraction("one in least terms from the start", 27796570133L, 387420489L * 2520L, w -> notes.named(0, 0, 1, 0, w));
+    }
+
+    private static NameNotes dearest(int... known) {
         StringBuilder text = new StringBuilder();
         for (int x = 0; x < 9; x++) {
             text.append("tune ").append(Slow.tuneName(x)).append(" 3 3;");
         }
         text.append("clue c ta tb tc td te tf tg th ti;person p;");
-        int[] known = {1, 2, 4, 5, 7, 8, 1, 2, 5};
         for (int x = 0; x < 9; x++) {
             text.append("knows p ").append(Slow.tuneName(x)).append(' ').append(known[x]).append(';');
         }
@@ -125,6 +130,7 @@ public final class OddsTest {
             sum = sum.plus(chance);
         }
         sum.times(Ratio.of(1, 9)).due("the longest odds", notes.odds(0, 9, 0, 0), notes.odds(0, 9, 0, 1));
+        return notes;
     }
 
     private static void names(Slow slow, int p, int c) {

@@ -41,6 +41,14 @@ final class RulesBounds {
                 Check.due("by those that both lack", notes.begins(0, 9, how, -1), 5);
                 Check.due("by one that the other lacks", notes.begins(1, 3, how, -1), how == 2 ? 10 : 2);
             }
+            NameNotes noughts = Check.told("tune x 5 2;tune y 5 2 0 1;tune z 5 2 0 9 0 1;");
+            Check.due("no pitch is not pitch 0", noughts.begins(0, 2, 1, -1), 1);
+            Check.due("no pitch is not pitch 0 in steps", noughts.begins(0, 2, 3, -1), 1);
+            Check.due("no pitch is not pitch 0", noughts.begins(1, 3, 1, -1), 2);
+            NameNotes later = Check.told("tune x 5 2 7 1 9 1;tune y 5 2 7 1;");
+            Check.studio(later, "tune x 5 2;tune y 5 2 7 1 9 1;tune z 5 2;");
+            Check.due("nothing is left of another studio", later.begins(0, 2, 0, -1), 5);
+            Check.due("nothing is left of another studio", later.begins(1, 3, 1, -1), 2);
             Check.due("the first one unlike", Check.told("tune x 5 2 7 1;tune y 6 2 7 1;").begins(0, 2, 0, -1), 1);
         });
         terms("in PITCH and LENGTH (how 0), in PITCH (1), in LENGTH (2), in steps (3: each PITCH less the first one of its"
@@ -152,9 +160,16 @@ final class RulesBounds {
             Check.fraction("behind 1 b says NAME IT", 5, 9, w -> bids.gains(0, 1, 2, 0, w));
             NameNotes names = Check.told(ONE + "dare b 5;");
             Check.fraction("b says NAME IT by less than 5 of 9", 0, 1, w -> names.gains(0, 1, 0, 0, w));
+            Check.due("all is lost, but she must bid", names.reply(0, 1, 0, 0), 9);
+            NameNotes last = Check.told(ONE + "dare b 4;from 2;");
+            Check.due("b bids 1 behind 2", last.reply(0, 1, 0, 0), 2);
+            Check.fraction("b bids 1 behind 2", 5, 9, w -> last.gains(0, 1, 0, 0, w));
             NameNotes bold = Check.told(ONE + "dare a 0;");
             Check.due("behind 1 a must not bid", bold.reply(2, 0, 2, 0), 0);
             Check.fraction("a, who knows nothing, bids by 0 of 9", 1, 1, w -> bold.gains(1, 0, 0, 0, w));
+            NameNotes always = Check.told(ONE + "dare b 0;");
+            Check.due("behind 1 b must not bid", always.reply(2, 1, 2, 0), 1);
+            Check.fraction("behind 1 b must not bid", 1, 1, w -> always.gains(2, 1, 2, 0, w));
             NameNotes sure = Check.told(ONE + "dare e 9;");
             Check.fraction("e bids by 9 of 9, and behind 1 she says NAME IT", 4, 9, w -> sure.gains(1, 2, 0, 0, w));
             Check.due("b bids 9, so that she bids 1 last", sure.reply(1, 2, 0, 0), 9);
@@ -326,6 +341,9 @@ final class RulesBounds {
             NameNotes late = Check.told("tune x 5 2 7 1;tune y 5 2 8 1;clue c x y;person a;person b;knows a x 9;knows a y 9;"
                     + "knows b x 9;knows b y 9;dare a 9;dare b 9;from 6;");
             night(late, 0, 1, 1, 5, 3, 2, 5, 2);
+            NameNotes lengths = Check.told("tune x 5 2;tune y 5 3;clue c x y;person a;person b;knows a x 9;knows a y 9;"
+                    + "knows b x 9;knows b y 9;dare a 9;dare b 9;from 6;");
+            night(lengths, 0, 1, -1, 5, 2, 3, 5, 1);
             NameNotes nothing = Check.told("tune x 5 2;clue c x;person a;person b;dare a 0;dare b 0;from 6;");
             night(nothing, 0, 1, -1, 5, 2, 3, 0, 6);
         });
@@ -498,6 +516,7 @@ final class RulesBounds {
             Check.fraction("all", 1, 1, w -> notes.odds(2, 1, 0, w));
             notes.teach(1, 0, 6);
             Check.fraction("6 of 9", 2, 3, w -> notes.odds(1, 1, 0, w));
+            OddsTest.dearest();
             for (int wrong : new int[] {-1, 2, Integer.MAX_VALUE, Integer.MIN_VALUE}) {
                 Check.throwsNoSuch("named", () -> notes.named(1, 0, 1, 0, wrong));
                 Check.throwsNoSuch("odds", () -> notes.odds(1, 1, 0, wrong));

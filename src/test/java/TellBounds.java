@@ -89,6 +89,10 @@ final class TellBounds {
             Check.evening(notes, "clue c;");
             Check.due("behind another one", notes.heard(1), 0);
             Check.due("behind another one", notes.heard(4), -1);
+            Check.evening(notes, "clue c;a 6;b 6;");
+            Check.due("a wrong one", notes.heard(0), 3);
+            Check.evening(notes, "clue c;");
+            Check.due("behind a wrong one", notes.heard(0), 0);
         });
         Bound.promise(48, "NONE: another what, or ahead of any.", () -> {
             NameNotes notes = Check.told(HEARD);
@@ -260,6 +264,11 @@ final class TellBounds {
             Check.due("the longest", notes.write(2), 44);
             Check.due("text", Check.text(notes), "24 9" + " 24 9".repeat(8));
             Check.due("the ninth tune", Check.told(FULL).write(8), 35);
+            for (int pitch = 0; pitch <= 24; pitch++) {
+                NameNotes one = Check.told("tune x " + pitch + " 1;");
+                one.write(0);
+                Check.due("text", Check.text(one), pitch + " 1");
+            }
         });
         Bound.promise(53, "NONE: no such one.", () -> {
             NameNotes full = Check.told(FULL);

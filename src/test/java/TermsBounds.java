@@ -298,6 +298,12 @@ final class TermsBounds {
             }
             Check.faulty("from 4;person a;from 4;", 3, 16);
             Check.due("without", Check.told("person a;").count(3), 9);
+            NameNotes notes = Check.told("from 4;");
+            Check.studio(notes, "person a;");
+            Check.due("without, though the last studio had one", notes.count(3), 9);
+            Check.studio(notes, "from 3;!");
+            Check.studio(notes, "person a;");
+            Check.due("without, though one with a fault had one", notes.count(3), 9);
             Check.faulty("from;", 1, 4);
         });
     }
