@@ -275,6 +275,12 @@ final class ChangeBounds {
             Check.due("dare is her own", full.dare(4), 9);
             Check.due("two were done", full.undo(), 1);
             Check.due("back at once", full.knows(4, 8), 9);
+            NameNotes small = Check.told(SMALL);
+            small.teach(0, 1, 4);
+            Check.due("two of three", small.copies(1, 0), 2);
+            Check.due("each as it is known", small.knows(1, 0), 9);
+            Check.due("each as it is known", small.knows(1, 1), 4);
+            Check.due("each as it is known", small.knows(1, 2), 0);
             Check.due("of no tunes", Check.told("person a;person b;").copies(0, 1), 0);
         });
         Bound.promise(39, "NONE: no such ones.", () -> {
@@ -304,6 +310,8 @@ final class ChangeBounds {
                 }
                 Check.due("of one tune", full.twins(1, how, 1, -1), 0);
                 Check.due("of the first and the last one", full.twins(1, how, 3, 0), 8);
+                Check.due("of the first and the last one", full.twins(1, how, 3, -1), 1);
+                Check.due("by two notes", Check.told(SMALL).twins(2, how, -1, -1), how < 2 ? 1 : 3);
             }
             int k = 0;
             for (int x = 0; x < 9; x++) {

@@ -148,6 +148,10 @@ final class OddsBounds {
                 Check.fraction("wrong of one not known", 0, 1, w -> full.held(1, 8, by, 0, 0, w));
             }
             Check.fraction("wrong of one known for sure", 1, 1, w -> full.held(0, 8, 1, 0, 0, w));
+            NameNotes two = Check.told("tune x 5 2;tune y 5 2;clue c x y;person a;knows a x 6;knows a y 3;");
+            // She is right by 5 and by 2 of 9.
+            Check.fraction("wrong of the one", 1, 4, w -> two.held(0, 0, 1, 0, 0, w));
+            Check.fraction("wrong of the other one", 1, 7, w -> two.held(0, 1, 1, 0, 0, w));
             // She is right by 65 of 162, and knows it by 90 of 162.
             Check.fraction("wrong of one of two", 25, 97, w -> full.held(2, 8, 1, 4, 0, w));
         });
@@ -244,6 +248,8 @@ final class OddsBounds {
             Check.due("behind 5", notes.best(0, 1, 5, 0), 0);
             Check.due("behind 1", notes.best(0, 1, 1, 0), 0);
             Check.due("the last persons and clue", notes.best(4, 3, 0, 5), 9);
+            Check.due("behind the last clue", notes.best(0, 1, 5, 5), 4);
+            Check.due("behind the last clue", notes.best(0, 1, 2, 5), 0);
             Check.due("p's own doing", Check.told(SMALL).best(0, 1, 4, 0), 0);
             Check.due("p's own doing", Check.told(SMALL).best(1, 0, 4, 0), 3);
         });
@@ -257,6 +263,8 @@ final class OddsBounds {
             Check.fraction("no bid yet", 5, 9, w -> notes.worth(0, 1, 0, 0, w));
             Check.fraction("behind 9", 5, 9, w -> notes.worth(0, 1, 9, 0, w));
             Check.fraction("behind 1", 8, 9, w -> notes.worth(0, 1, 1, 0, w));
+            Check.fraction("behind the last clue", 1, 2, w -> notes.worth(0, 1, 9, 5, w));
+            Check.fraction("behind the second clue", 1, 1, w -> notes.worth(0, 1, 0, 1, w));
             Check.fraction("surely", 1, 1, w -> notes.worth(0, 3, 0, 0, w));
             Check.fraction("never", 0, 1, w -> notes.worth(3, 0, 0, 0, w));
         });
@@ -287,6 +295,9 @@ final class OddsBounds {
             Check.due("behind 6 she would bid just 5", even.reply(0, 1, 7, 0), 5);
             Check.due("5 and 4 are like, but for the bid", even.reply(0, 1, 5, 0), 0);
             Check.due("she bids down to 6 of 9", even.reply(0, 1, 0, 0), 9);
+            Check.due("all is sure behind the second clue", even.reply(0, 1, 5, 1), 4);
+            Check.due("she bids 1 at last", even.reply(0, 1, 2, 1), 1);
+            Check.fraction("all is sure behind the second clue", 1, 1, w -> even.gains(0, 1, 5, 1, w));
             even.dares(1, 9);
             Check.due("she says NAME IT below 9", even.reply(0, 1, 0, 0), 9);
             Check.fraction("she says NAME IT below 9", 1, 1, w -> even.gains(0, 1, 0, 0, w));
@@ -342,6 +353,9 @@ final class OddsBounds {
             Check.due("b's, if a speaks first, else even", none.fair(0, 1, 0), 0);
             NameNotes full = Check.told(FULL);
             Check.due("surely p's", full.fair(0, 1, 0), 1);
+            Check.due("even, whoever speaks first, behind the fourth clue", even().fair(0, 1, 3), 0);
+            Check.due("the last clue is not the first", full.fair(4, 1, 5), 0);
+            Check.due("where one knows all", full.fair(4, 1, 2), 1);
             Check.due("surely q's", full.fair(1, 0, 0), -1);
             Check.due("nobody's who speaks first", full.fair(1, 3, 0), 0);
         });
@@ -387,6 +401,7 @@ final class OddsBounds {
                 + " ones the first);", () -> {
             String text = "tune u 5 2;tune v 6 2;tune w 7 2;tune x 8 2;tune y 9 2;clue cu u;clue cv v;clue cw w;clue cx x;clue cy y;"
                     + "person a;person b;from 1;knows a u 9;knows a v 0;knows a w 6;knows a x 4;knows a y 5;";
+            Check.due("q's odds count", Check.told(FULL).closest(0, 1), 0);
             // who speaks first has the point by her odds
             Check.due("4 and 5 of 9 are like", Check.told(text).closest(0, 1), 3);
             Check.due("all are lost for b", Check.told(text).closest(1, 0), 0);
@@ -412,6 +427,8 @@ final class OddsBounds {
             Check.due("text", Check.text(even), "clue ca;pa 5;pb name;");
             Check.due("all bids", even.play(1, 0, 3), 61);
             Check.due("text", Check.text(even), "clue cd;pb 9;pa 8;pb 7;pa 6;pb 5;pa 4;pb 3;pa 2;pb 1;pa name;");
+            Check.due("p says NAME IT", even.play(1, 0, 4), 26);
+            Check.due("text", Check.text(even), "clue ce;pb 9;pa 8;pb name;");
             NameNotes small = Check.told(SMALL);
             Check.due("play", small.play(0, 1, 0), 22);
             Check.due("text", Check.text(small), "clue c;a 4;b 3;a name;");
@@ -448,6 +465,11 @@ final class OddsBounds {
             Check.due("the last one", full.ablest(9, 0), 4);
             full.copies(4, 3);
             Check.due("all know nothing", full.ablest(9, 0), 0);
+            NameNotes two = Check.told("tune x 5 2;tune y 5 2 7 1;clue c x y;clue d y;person a;person b;knows a x 5;knows a y 5;"
+                    + "knows b y 9;");
+            Check.due("65 of 162 is less than half", two.ablest(1, 0), 1);
+            Check.due("5 of 9 is more than half", two.ablest(2, 0), 0);
+            Check.due("behind the other clue", two.ablest(2, 1), 1);
         });
         Bound.promise(29, "NONE: none, no such ones.", () -> {
             Check.due("none", Check.told("tune x 5 2;clue c x;").ablest(1, 0), -1);

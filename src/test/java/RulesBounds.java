@@ -338,6 +338,17 @@ final class RulesBounds {
                     Check.due(tunes + " tunes alike, dare " + dare, alike.nightly(4), tunes - 1 <= 9 - dare ? 1 : 6);
                 }
             }
+            NameNotes unlike = Check.told("tune w 9 9;tune x 5 2;tune y 5 2;clue c x y;person a;person b;knows a x 9;knows a y 9;"
+                    + "knows b x 9;knows b y 9;dare a 9;dare b 9;from 6;");
+            unlike.night(0, 1, 1);
+            Check.due("one other is too many", unlike.nightly(4), 6);
+            unlike.dares(0, 0);
+            for (int seed = 0; seed < 9; seed++) {
+                unlike.night(0, 1, seed);
+                Check.due("not for a, by her own rule", unlike.nightly(4), 5);
+                unlike.night(1, 0, seed);
+                Check.due("not for a, by her own rule", unlike.nightly(4), 5);
+            }
             NameNotes late = Check.told("tune x 5 2 7 1;tune y 5 2 8 1;clue c x y;person a;person b;knows a x 9;knows a y 9;"
                     + "knows b x 9;knows b y 9;dare a 9;dare b 9;from 6;");
             night(late, 0, 1, 1, 5, 3, 2, 5, 2);

@@ -363,6 +363,11 @@ final class StudioBounds {
                     Check.due("of the four first ones", full.parts(n, how, 5), Math.min(n, 4));
                 }
             }
+            int[] hows = {3, 2, 2, 2};
+            for (int how = 0; how < 4; how++) {
+                NameNotes four = Check.told("tune x 5 2 7 1;tune y 5 3 7 1;tune z 6 2 7 1;");
+                Check.due("by how " + how, four.parts(2, how, -1), hows[how]);
+            }
             Check.due("of no tunes", new NameNotes().parts(9, 3, -1), 0);
         });
         Bound.promise(13, "NONE: no such ones.", () -> {
