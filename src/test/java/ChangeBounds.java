@@ -281,6 +281,10 @@ final class ChangeBounds {
             Check.due("each as it is known", small.knows(1, 0), 9);
             Check.due("each as it is known", small.knows(1, 1), 4);
             Check.due("each as it is known", small.knows(1, 2), 0);
+            for (int p = 0; p < 5; p++) {
+                others(p, (p + 1) % 5);
+                others(p, (p + 4) % 5);
+            }
             Check.due("of no tunes", Check.told("person a;person b;").copies(0, 1), 0);
         });
         Bound.promise(39, "NONE: no such ones.", () -> {
@@ -293,6 +297,23 @@ final class ChangeBounds {
             Check.due("a third person", Check.told(SMALL).copies(0, 2), -1);
             Check.due("nothing was done", full.undo(), -1);
         });
+    }
+
+    /** What the others know stays as it is. */
+    private static void others(int p, int q) {
+        NameNotes full = Check.told(FULL);
+        NameNotes same = Check.told(FULL);
+        full.copies(p, q);
+        for (int other = 0; other < 5; other++) {
+            for (int x = 0; x < 9; x++) {
+                Check.due("known by " + other + ", copies(" + p + ", " + q + ")", full.knows(other, x), same.knows(other == p ? q : other, x));
+            }
+        }
+        full.undo();
+        for (int other = 0; other < 5; other++) {
+            Check.due("known as before", full.knows(other, 0), same.knows(other, 0));
+            Check.due("known as before", full.knows(other, 8), same.knows(other, 8));
+        }
     }
 
     private static void twins() {
