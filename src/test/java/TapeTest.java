@@ -1,12 +1,8 @@
-import java.lang.reflect.Member;
-import java.lang.reflect.Modifier;
-
-/** Promises 1 to 3 and 59: a new object, the tape, and the face itself. */
+/** Promises 1 to 3 and 59: a new object, the tape. */
 public final class TapeTest {
     public static void main(String[] args) {
         newObject();
         tape();
-        face();
         Check.end();
     }
 
@@ -50,24 +46,5 @@ public final class TapeTest {
         Check.due("studio", notes.studio(), 1);
         Check.due("from", notes.count(3), 3);
         Check.due("bytes behind studio", notes.count(4), 0);
-    }
-
-    /** No members but those of the document may be seen from outside. */
-    private static void face() {
-        Class<NameNotes> type = NameNotes.class;
-        Check.due("public and final", Modifier.isPublic(type.getModifiers()) && Modifier.isFinal(type.getModifiers()), true);
-        Check.due("constructors", seen(type.getDeclaredConstructors()), 1);
-        Check.due("constants", seen(type.getDeclaredFields()), 1);
-        Check.due("methods", seen(type.getDeclaredMethods()), 58);
-    }
-
-    private static int seen(Member[] members) {
-        int count = 0;
-        for (Member member : members) {
-            if (!Modifier.isPrivate(member.getModifiers()) && !member.isSynthetic()) {
-                count++;
-            }
-        }
-        return count;
     }
 }
