@@ -31,6 +31,10 @@ public final class DepthTest {
     }
 
     public static void main(String[] args) throws IOException {
+        if (ToolProvider.getSystemJavaCompiler() == null) {
+            System.out.println("this java has no compiler in it: the depth was not reckoned");
+            return;
+        }
         DepthTest test = new DepthTest();
         test.read(Path.of("src/main/java/NameNotes.java"));
         for (String method : test.calls.keySet()) {
